@@ -70,6 +70,45 @@ final class Tales {
         return new String(letters);
     }
 
+    /** As many NAMES, one PERSON's each, with the same text between any two. */
+    static String names(int count, String between) {
+        StringBuilder names = new StringBuilder();
+        for (int i = 0; i < count; i++) {
+            names.append(i == 0 ? "" : between).append(nameOf(i));
+        }
+        return names.toString();
+    }
+
+    /** All that can be asked, in one text: two of them are alike if nothing was done between. */
+    static String all(TaleReader x) {
+        StringBuilder all = new StringBuilder();
+        for (int what = 0; what < 8; what++) {
+            all.append(x.look(what)).append(' ');
+        }
+        for (int j = 0; j < x.look(0); j++) {
+            for (int what = 0; what < 7; what++) {
+                all.append(x.mention(j, what)).append(' ');
+            }
+            all.append(x.who(j)).append(' ');
+        }
+        for (int p = 0; p < x.look(1); p++) {
+            for (int what = 0; what < 6; what++) {
+                all.append(x.person(p, what)).append(' ');
+            }
+            for (int i = 0; i <= x.person(p, 3); i++) {
+                all.append(x.name(p, i)).append(' ');
+            }
+        }
+        return all.toString();
+    }
+
+    static void dueTheSame(String call, String got, String want) {
+        if (!got.equals(want)) {
+            wrong++;
+            System.out.println(call + " changed what is answered: " + got + ", due is " + want);
+        }
+    }
+
     static void finish() {
         System.out.println(wrong == 0 ? "all answers are as due" : wrong + " answers are not as due");
         if (wrong != 0) {
