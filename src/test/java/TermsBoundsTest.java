@@ -13,6 +13,7 @@ public final class TermsBoundsTest {
         personsAre30AtMost();
         theThirtyFirstIsNobody();
         joinedOnesCountAmongThe30();
+        allThirtyJoinedInARow();
         aGroupCountsAmongThe30();
         toldNamesAreUpToEight();
         Tales.finish();
@@ -252,6 +253,29 @@ public final class TermsBoundsTest {
         x = Tales.of(tale + " Zoe Yan");
         Tales.due("one JOINED, the 31st: mention(31, 4)", x.mention(31, 4), -1);
         Tales.due("one JOINED, the 31st: look(1)", x.look(1), 30);
+    }
+
+    // "JOINED PERSONS keep their numbers: asked for, they are told as the one to whom they are JOINED."
+    private static void allThirtyJoinedInARow() {
+        StringBuilder tale = new StringBuilder("x " + Tales.names(30, " ") + ". x " + Tales.nameOf(29));
+        for (int p = 28; p >= 0; p--) {
+            tale.append(" is ").append(Tales.nameOf(p));
+        }
+        TaleReader x = Tales.of(tale + ". he");
+        Tales.due("30 in a row: look(1)", x.look(1), 30);
+        Tales.due("30 in a row: mention(60, 5)", x.mention(60, 5), 1);
+        Tales.due("30 in a row: mention(60, 6)", x.mention(60, 6), 0);
+        for (int p = 0; p < 30; p++) {
+            Tales.due("30 in a row: person(" + p + ", 0)", x.person(p, 0), 0);
+            Tales.due("30 in a row: person(" + p + ", 1)", x.person(p, 1), 1);
+            Tales.due("30 in a row: person(" + p + ", 2)", x.person(p, 2), 61);
+            Tales.due("30 in a row: person(" + p + ", 3)", x.person(p, 3), 30);
+            Tales.due("30 in a row: person(" + p + ", 5)", x.person(p, 5), p - 1);
+            Tales.due("30 in a row: mention(" + p + ", 4)", x.mention(p, 4), 0);
+            Tales.due("30 in a row: who(" + p + ")", x.who(p), 0);
+            Tales.due("30 in a row: chain(" + p + ", 60)", x.chain(p, 60), 60);
+            Tales.due("30 in a row: name(0, " + p + ")", x.name(0, p), p);
+        }
     }
 
     private static void aGroupCountsAmongThe30() {
